@@ -17,6 +17,7 @@ public final class ForecastTest {
         test.stuckIn();
         test.nothingIsChanged();
         test.againAndAgain();
+        test.fromTheMidst();
         test.checks.close();
     }
 
@@ -61,18 +62,7 @@ public final class ForecastTest {
     }
 
     private void doneInOfAll() {
-        BeadleKernel k = mixed();
-        int[] told = new int[k.tasks()];
-        for (int task = 0; task < k.tasks(); task++) {
-            told[task] = k.doneIn(task, 60);
-        }
-        int clock = k.clock();
-        k.tick(30);
-        k.tick(30);
-        for (int task = 0; task < k.tasks(); task++) {
-            int tick = k.told(task, 4);
-            checks.same("35 of " + task, told[task], tick == -1 ? -1 : tick - clock + 1);
-        }
+        doneAsTold(mixed());
     }
 
     private void doneWith() {
@@ -169,6 +159,39 @@ public final class ForecastTest {
         k.stuckIn(60);
         checks.same("37 the same again", k.idleIn(30), idle);
         checks.same("35 the same again", k.doneIn(2, 60), done);
+    }
+
+    private void fromTheMidst() {
+        BeadleKernel k = Scene.kernel(3);
+        k.setWay(1, 2, 4);
+        Scene.started(k, 3, Scene.LOCK, 2, Scene.RUN, 6, Scene.SIGNAL, 1, Scene.RUN, 2);
+        k.tick(1);
+        Scene.started(k, 3, Scene.LOCK, 2, Scene.RUN, 3, Scene.AWAIT, 1, Scene.RUN, 1);
+        Scene.started(k, 3, Scene.AWAIT, 1, Scene.RUN, 3);
+        k.tick(1);
+        Scene.started(k, 3, Scene.SLEEP, 4, Scene.RUN, 2);
+        k.signal(0);
+        Scene.started(k, 3, Scene.AWAIT, 0, Scene.RUN, 20);
+        k.tick(1);
+        checks.same("35 running, blocked, awaiting, asleep, running", Scene.states(k), "24532");
+        doneAsTold(k);
+    }
+
+    private void doneAsTold(BeadleKernel k) {
+        int[] told = new int[k.tasks()];
+        for (int task = 0; task < told.length; task++) {
+            told[task] = k.doneIn(task, 60);
+        }
+        int idle = k.idleIn(60);
+        int clock = k.clock();
+        int before = k.idle();
+        k.tick(30);
+        k.tick(30);
+        for (int task = 0; task < told.length; task++) {
+            int tick = k.told(task, 4);
+            checks.same("35 of " + task, told[task], tick == -1 ? -1 : tick - clock + 1);
+        }
+        checks.same("37 as it came", k.idle() - before, idle);
     }
 
     /** Some of all that there is: quotas, locks, events, sleep, rounds and turns. */

@@ -180,6 +180,9 @@ public final class PromisesTest {
         checks.same("5 tick 4 begins none of 3", k.used(0), 5);
         k.tick(2);
         checks.same("5 tick 6 begins one", k.used(0), 1);
+        k.setPeriod(1);
+        k.tick(3);
+        checks.same("5 each tick begins one of 1", k.used(0), 1);
     }
 
     private void addTask() {
@@ -683,6 +686,17 @@ public final class PromisesTest {
         k.tick(3);
         checks.same("39 of what is asked", k.digest(), digestOf(k));
         checks.same("39 changes nothing", k.digest(), digestOf(k));
+        BeadleKernel ring = new BeadleKernel();
+        ring.setProcessors(2);
+        ring.setWay(1, 1, 0);
+        Scene.started(ring, 3, Scene.LOCK, 0, Scene.RUN, 3, Scene.LOCK, 1, Scene.RUN, 1);
+        Scene.started(ring, 3, Scene.LOCK, 1, Scene.RUN, 3, Scene.LOCK, 0, Scene.RUN, 1);
+        int third = Scene.task(ring, 2, 1, 3, Scene.SIGNAL, 3, Scene.RUN, 3);
+        ring.start(third);
+        ring.tick(9);
+        checks.isTrue("39 is stuck, has rounds, levels and numbers behind it", ring.stuck() == 3
+                && ring.roundsOf(third) == 2 && ring.levelOf(third) == 2 && ring.number(3) == 3);
+        checks.same("39 of all this", ring.digest(), digestOf(ring));
     }
 
     private static long digestOf(BeadleKernel k) {

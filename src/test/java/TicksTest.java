@@ -443,6 +443,12 @@ public final class TicksTest {
         checks.same("4e at 0 it awaits", k.awaiting(2), 1);
         checks.same("16 at the step where it awaits", k.stepOf(0), 4);
         checks.same("4e the tick is idle", k.ran(0, 1), -1);
+        BeadleKernel one = Scene.kernel(1);
+        one.signal(0);
+        Scene.started(one, 5, Scene.AWAIT, 0, Scene.RUN, 1, Scene.AWAIT, 0, Scene.RUN, 1);
+        one.tick(2);
+        checks.same("4e a number of 1 is taken once", one.stateOf(0) * 10 + one.stepOf(0), 52);
+        checks.same("4e no number is left", one.number(0), 0);
     }
 
     private void yield() {
