@@ -2,11 +2,26 @@
 final class Checks {
 
     private final String name;
+    private String test = "";
     private int done = 0;
+    private int doneBefore = 0;
     private int wrong = 0;
 
     Checks(String name) {
         this.name = name;
+    }
+
+    /** From here on the checks are those of a test of its own, which must make at least one. */
+    void begin(String itsTest) {
+        end();
+        test = itsTest;
+    }
+
+    private void end() {
+        if (!test.isEmpty()) {
+            note(done > doneBefore, "made no check");
+        }
+        doneBefore = done;
     }
 
     void same(String what, long got, long want) {
@@ -44,12 +59,13 @@ final class Checks {
         if (!right) {
             wrong++;
             if (wrong <= 50) {
-                System.out.println(name + ": " + text);
+                System.out.println(name + ": " + (test.isEmpty() ? "" : test + ": ") + text);
             }
         }
     }
 
     void close() {
+        end();
         System.out.println(name + ": " + done + " checks, " + wrong + " wrong");
         if (wrong > 0 || done == 0) {
             System.exit(1);
