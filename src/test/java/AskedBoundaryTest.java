@@ -774,11 +774,17 @@ public final class AskedBoundaryTest extends BoundaryTests {
         BeadleKernel k = of(3);
         k.tick(40);
         checks.same("all idle", k.load(), 0.0);
+        BeadleKernel one = Scene.kernel(1);
+        Scene.started(one, 0, Scene.RUN, 1);
+        one.tick(1);
+        checks.same("1 of 1", one.load(), 1.0);
         BeadleKernel full = Scene.kernel(3);
         for (int task = 0; task < 3; task++) {
             Scene.started(full, 0, Scene.RUN, 20);
         }
-        full.tick(20);
+        full.tick(1);
+        checks.same("none idle in the first tick", full.load(), 1.0);
+        full.tick(19);
         checks.same("none idle", full.load(), 1.0);
         full.tick(1);
         checks.same("60 of 63", full.load(), 60.0 / 63.0);

@@ -103,6 +103,130 @@ public final class ForeseenBoundaryTest extends BoundaryTests {
         }
     }
 
+    /** The busy scene, and one that takes what number there is. */
+    private static BeadleKernel busier(int way) {
+        BeadleKernel k = Scene.busy(way);
+        Scene.started(k, 3, Scene.AWAIT, 4, Scene.RUN, 1, Scene.AWAIT, 4, Scene.SLEEP, 3, Scene.RUN, 8);
+        Scene.started(k, 2, Scene.RUN, 4, Scene.SIGNAL, 2, Scene.RUN, 2);
+        k.tick(1);
+        return k;
+    }
+
+    /** One awaits and one is blocked already; those that come to it later have the lesser numbers. */
+    private static BeadleKernel lines() {
+        BeadleKernel k = Scene.kernel(2);
+        Scene.task(k, 4, 0, 1, Scene.AWAIT, 1, Scene.RUN, 3);
+        Scene.task(k, 4, 0, 1, Scene.LOCK, 0, Scene.RUN, 3);
+        Scene.started(k, 4, Scene.AWAIT, 1, Scene.RUN, 3);
+        Scene.started(k, 1, Scene.LOCK, 0, Scene.RUN, 9);
+        k.tick(1);
+        Scene.started(k, 4, Scene.LOCK, 0, Scene.RUN, 3);
+        k.tick(1);
+        k.start(0);
+        k.start(1);
+        Scene.started(k, 5, Scene.RUN, 5, Scene.SIGNAL, 1, Scene.RUN, 5, Scene.SIGNAL, 1, Scene.RUN, 1);
+        return k;
+    }
+
+    private void comesAsForeseen(Supplier<BeadleKernel> scene) {
+        BeadleKernel come = scene.get();
+        int clock = come.clock();
+        int idle = come.idle();
+        int[] idles = new int[61];
+        int stuckBehind = come.stuck() != 0 ? 0 : -1;
+        for (int ticks = 1; ticks <= 60; ticks++) {
+            come.tick(1);
+            idles[ticks] = come.idle() - idle;
+            stuckBehind = stuckBehind == -1 && come.stuck() != 0 ? ticks : stuckBehind;
+        }
+        for (int task = 0; task < come.tasks(); task++) {
+            int tick = come.told(task, 4);
+            int due = tick == -1 ? -1 : Math.max(0, tick - clock + 1);
+            same("doneIn of " + task, scene.get().doneIn(task, 60), due);
+        }
+        for (int ticks = 1; ticks <= 60; ticks++) {
+            same("idleIn(" + ticks + ")", scene.get().idleIn(ticks), idles[ticks]);
+        }
+        same("stuckIn", scene.get().stuckIn(60), stuckBehind);
+    }
+
+    @Says("Returns behind how many ticks it would be DONE")
+    void promise35_comesAsForeseen() {
+        for (int way = 0; way <= 2; way++) {
+            int itsWay = way;
+            comesAsForeseen(() -> Scene.busy(itsWay));
+            comesAsForeseen(() -> busier(itsWay));
+        }
+        same("states", Scene.states(lines()), "115241");
+        comesAsForeseen(ForeseenBoundaryTest::lines);
+        comesAsForeseen(() -> running(60));
+        comesAsForeseen(() -> stuckBehind(9));
+    }
+
+    @Says("Returns behind how many ticks it would be DONE")
+    void promise35_foreseesByStands() {
+        BeadleKernel order = Scene.kernel(1);
+        Scene.task(order, 3, 0, 1, Scene.RUN, 2);
+        Scene.started(order, 3, Scene.RUN, 5);
+        order.start(0);
+        same("the smaller stand", order.doneIn(1, 60) * 10 + order.doneIn(0, 60), 57);
+        BeadleKernel next = Scene.kernel(1);
+        Scene.started(next, 3, Scene.SLEEP, 3, Scene.RUN, 3);
+        Scene.started(next, 3, Scene.RUN, 4);
+        Scene.started(next, 3, Scene.RUN, 4);
+        next.tick(2);
+        // The one that wakes gets a stand behind the other's: ticks 1 to 4, 5 to 8, and then 9 to 11.
+        same("the next stand", next.doneIn(2, 60) * 100 + next.doneIn(0, 60), 710);
+    }
+
+    @Says("Returns behind how many ticks it would be DONE")
+    void promise35_foreseesByLevels() {
+        BeadleKernel k = new BeadleKernel();
+        k.setWay(1, 1, 0);
+        Scene.started(k, 0, Scene.RUN, 9);
+        k.tick(7);
+        k.setWay(1, 10, 0);
+        Scene.started(k, 0, Scene.RUN, 5);
+        same("levels", k.levelOf(0) * 10 + k.levelOf(1), 20);
+        same("the less one first", k.doneIn(1, 60) * 10 + k.doneIn(0, 60), 57);
+        k.setWay(1, 10, 8);
+        k.tick(1);
+        // All are 0 from the tick 8 on, and the one that is running then is the second.
+        same("with a boost", k.doneIn(1, 60) * 10 + k.doneIn(0, 60), 46);
+        BeadleKernel boost = new BeadleKernel();
+        boost.setWay(1, 1, 0);
+        Scene.started(boost, 0, Scene.RUN, 9);
+        boost.tick(7);
+        boost.setProcessors(1);
+        boost.setWay(1, 10, 7);
+        Scene.started(boost, 0, Scene.RUN, 5);
+        same("at once a boost, by which the smaller stand goes first", boost.doneIn(0, 60), 2);
+    }
+
+    @Says("Returns behind how many ticks it would be DONE")
+    void promise35_foreseesTheRestOfATurn() {
+        BeadleKernel k = new BeadleKernel();
+        Scene.started(k, 3, Scene.RUN, 3, Scene.RUN, 2);
+        Scene.started(k, 3, Scene.RUN, 2);
+        k.tick(2);
+        // One tick is left of its turn of 3; the other has two, and then comes the rest.
+        same("the other", k.doneIn(1, 60), 3);
+        same("itself", k.doneIn(0, 60), 5);
+    }
+
+    @Says("Returns behind how many ticks it would be DONE")
+    void promise35_foreseesWhoCameFirst() {
+        BeadleKernel k = Scene.kernel(1);
+        Scene.task(k, 3, 0, 1, Scene.AWAIT, 0, Scene.RUN, 1);
+        Scene.started(k, 3, Scene.AWAIT, 0, Scene.RUN, 1);
+        k.tick(1);
+        k.start(0);
+        k.tick(1);
+        Scene.started(k, 3, Scene.RUN, 1, Scene.SIGNAL, 0, Scene.RUN, 1);
+        same("the one that came first", k.doneIn(1, 60), 3);
+        same("the other never", k.doneIn(0, 60), -1);
+    }
+
     // ---- 36 doneWith
 
     @Says("Throws `IndexOutOfBoundsException` if there is no such TASK")
@@ -170,6 +294,19 @@ public final class ForeseenBoundaryTest extends BoundaryTests {
             same("60", running(60).doneWith(0, rank, 60), 60);
             same("59", running(60).doneWith(0, rank, 59), -1);
             same("1", running(1).doneWith(0, rank, 1), 1);
+        }
+    }
+
+    @Says("Returns what doneIn() would tell, if it had this RANK.")
+    void promise36_comesAsForeseen() {
+        for (int way = 0; way <= 2; way++) {
+            for (int task = 0; task < busier(way).tasks(); task++) {
+                for (int rank = 0; rank <= 7; rank++) {
+                    BeadleKernel k = busier(way);
+                    k.setRank(task, rank);
+                    same("with the rank " + rank, busier(way).doneWith(task, rank, 60), k.doneIn(task, 60));
+                }
+            }
         }
     }
 
@@ -334,6 +471,10 @@ public final class ForeseenBoundaryTest extends BoundaryTests {
     @Says("d becomes d * 31 + x, which wraps around as a 64-bit integer")
     void promise39_wrapsAround() {
         digests("a new one", new BeadleKernel());
+        BeadleKernel stuck = stuckBehind(2);
+        stuck.tick(2);
+        same("two are stuck", stuck.stuck(), 3);
+        digests("with stuck tasks", stuck);
         for (int way = 0; way <= 2; way++) {
             BeadleKernel k = Scene.busy(way);
             for (int i = 0; i < 60; i++) {

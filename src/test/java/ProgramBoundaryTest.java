@@ -32,6 +32,26 @@ public final class ProgramBoundaryTest extends BoundaryTests {
         same("never idle", k.idle(), 0);
     }
 
+    @Says("STEPS but RUN take no time")
+    void promise12_eachStepDoesOnlyItsOwn() {
+        for (int code = Scene.SLEEP; code <= Scene.YIELD; code++) {
+            for (int n = 1; n <= 5; n++) {
+                BeadleKernel k = Scene.kernel(1);
+                Scene.started(k, 0, code, n, Scene.RUN, 2);
+                k.tick(1);
+                for (int i = 0; i < 6; i++) {
+                    String what = "of " + i + " behind the step " + code + " " + n + ": ";
+                    same("holder " + what, k.holder(i), code == Scene.LOCK && i == n ? 0 : -1);
+                    same("number " + what, k.number(i), code == Scene.SIGNAL && i == n ? 1 : 0);
+                    same("awaiting " + what, k.awaiting(i), code == Scene.AWAIT && i == n ? 1 : 0);
+                    same("blocked " + what, k.blocked(i), 0);
+                }
+                same("stand", k.standOf(0), code == Scene.YIELD ? 1 : 0);
+                same("state", k.stateOf(0), new int[] {0, 3, 2, 2, 2, 5, 1}[code]);
+            }
+        }
+    }
+
     private void runs(int n) {
         BeadleKernel k = Scene.kernel(1);
         Scene.started(k, 0, Scene.RUN, n, Scene.RUN, 1);
@@ -224,6 +244,25 @@ public final class ProgramBoundaryTest extends BoundaryTests {
         same("keys", k.lentKey(1) * 10 + k.lentKey(2), 43);
         k.tick(1);
         same("the one to which one is lent", k.holder(0), 2);
+    }
+
+    @Says("if any are BLOCKED there, the one with the least LENT KEY")
+    void promise12_passesALockByTheKeysOfNow() {
+        BeadleKernel k = Scene.kernel(3);
+        Scene.started(k, 0, Scene.LOCK, 0, Scene.RUN, 4, Scene.UNLOCK, 0, Scene.RUN, 9);
+        k.tick(1);
+        Scene.started(k, 4, Scene.LOCK, 0, Scene.RUN, 9);
+        k.tick(1);
+        Scene.started(k, 6, Scene.LOCK, 1, Scene.LOCK, 0, Scene.RUN, 9);
+        k.tick(2);
+        k.setProcessors(3);
+        // The next one gets the first processor, and is blocked by the 6 as the holder of 0 comes to its UNLOCK.
+        k.setRank(0, 1);
+        Scene.started(k, 0, Scene.LOCK, 1, Scene.RUN, 9);
+        same("ahead of it", k.lentKey(1) * 10 + k.lentKey(2), 46);
+        k.tick(1);
+        same("blocked in the same tick", k.blocked(1), 8);
+        same("its key is lent at once", k.holder(0), 2);
     }
 
     @Says("of several the one that was BLOCKED there first (also in one tick), holds it now")

@@ -459,6 +459,20 @@ public final class TaskBoundaryTest extends BoundaryTests {
         }
     }
 
+    @Says("and then UNLOCKS all LOCKS that it holds")
+    void promise10_unlocksByTheKeysOfNow() {
+        BeadleKernel k = Scene.kernel(3);
+        int holder = Scene.started(k, 7, Scene.LOCK, 0, Scene.RUN, 20);
+        k.tick(1);
+        Scene.started(k, 3, Scene.LOCK, 0, Scene.RUN, 1);
+        Scene.started(k, 4, Scene.LOCK, 0, Scene.RUN, 1);
+        k.tick(2);
+        same("blocked", k.blocked(0), 6);
+        k.setRank(2, 2);
+        k.end(holder);
+        same("the least key as it is now", k.holder(0), 2);
+    }
+
     @Says("and then UNLOCKS all LOCKS that it holds, by numbers")
     void promise10_unlocksNoneWithoutLocks() {
         BeadleKernel k = Scene.busy(0);
